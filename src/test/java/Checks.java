@@ -1,20 +1,35 @@
 /** Counts and prints the answers that are not as due. */
 final class Checks {
+    private String sentence = "";
+    private boolean isAsked = true;
+    private int sentences;
     private int wrong;
     private int asked;
 
+    /** The answers that are asked for from here on are those that this sentence of the document makes due. */
+    void sentence(String words) {
+        dueAsked();
+        sentences++;
+        sentence = "\"" + words + "\": ";
+        isAsked = false;
+    }
+
     void due(String call, long got, long want) {
-        asked++;
+        ask();
         if (got != want) {
-            wrong++;
-            if (wrong <= 50) {
-                System.out.println(call + " answered " + got + ", due is " + want);
-            }
+            tellWrong(call + " answered " + got + ", due is " + want);
         }
     }
 
     void due(String call, boolean got, boolean want) {
         due(call, got ? 1 : 0, want ? 1 : 0);
+    }
+
+    void dueSame(String call, String got, String want) {
+        ask();
+        if (!got.equals(want)) {
+            tellWrong(call + ": what is told is not the same");
+        }
     }
 
     interface Call {
@@ -23,7 +38,7 @@ final class Checks {
 
     /** Exactly that class of exception is due. */
     void dueThrow(String call, Class<? extends RuntimeException> want, Call made) {
-        asked++;
+        ask();
         String got;
         try {
             got = "answered " + made.make();
@@ -33,14 +48,34 @@ final class Checks {
             }
             got = "threw " + e.getClass().getSimpleName();
         }
-        wrong++;
-        System.out.println(call + " " + got + ", due is " + want.getSimpleName());
+        tellWrong(call + " " + got + ", due is " + want.getSimpleName());
     }
 
     void end() {
-        System.out.println(asked + " answers asked for, " + wrong + " not as due");
+        dueAsked();
+        System.out.println((sentences > 0 ? sentences + " sentences, " : "")
+                + asked + " answers asked for, " + wrong + " not as due");
         if (wrong != 0) {
             System.exit(1);
+        }
+    }
+
+    private void ask() {
+        asked++;
+        isAsked = true;
+    }
+
+    /** A sentence that nothing was asked of has no test. */
+    private void dueAsked() {
+        if (!isAsked) {
+            tellWrong("no answer was asked for");
+        }
+    }
+
+    private void tellWrong(String words) {
+        wrong++;
+        if (wrong <= 50) {
+            System.out.println(sentence + words);
         }
     }
 }

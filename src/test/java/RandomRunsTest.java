@@ -19,7 +19,10 @@ public final class RandomRunsTest {
             run(seed, 31, 400, 60);
         }
         for (int seed = 400; seed < 402; seed++) {
-            crowd(seed);
+            crowd(seed, 31, 9000);
+        }
+        for (int seed = 500; seed < 505; seed++) {
+            crowd(seed, seed - 497, 14000);
         }
         CHECKS.due("runs had many VIEWS that were BORROWED", borrowed > 100, true);
         CHECKS.due("runs had MESSAGES without room", refused > 100, true);
@@ -33,12 +36,27 @@ public final class RandomRunsTest {
         SharedShelf x = new SharedShelf(nodes);
         Model m = new Model(nodes);
         for (int c = 0; c < calls; c++) {
+            wrongCall(c, x, nodes);
             act(random, x, m, nodes, mostCalm, "seed " + seed + ", call " + c + ": ");
             if (nodes < 10 || c % 20 == 0) {
                 compare(x, m, "seed " + seed + ", behind call " + c + ": ");
             }
         }
         finish(x, m, "seed " + seed + ", at its end: ");
+    }
+
+    /** The model hears nothing of it, as what throws changes nothing. */
+    private static void wrongCall(int c, SharedShelf x, int nodes) {
+        switch (c % 8) {
+            case 0: CHECKS.dueThrow("update", IndexOutOfBoundsException.class, () -> x.update(nodes, 0, c, c)); break;
+            case 1: CHECKS.dueThrow("update", IllegalArgumentException.class, () -> x.update(c % nodes, 4, c, c)); break;
+            case 2: CHECKS.dueThrow("query", IndexOutOfBoundsException.class, () -> x.query(-1, 10, c)); break;
+            case 3: CHECKS.dueThrow("query", IllegalArgumentException.class, () -> x.query(c % nodes, 9, c)); break;
+            case 4: CHECKS.dueThrow("deliver", IndexOutOfBoundsException.class, () -> x.deliver(x.count(2))); break;
+            case 5: CHECKS.dueThrow("calm", IllegalArgumentException.class, () -> x.calm(2001)); break;
+            case 6: CHECKS.dueThrow("crash", IndexOutOfBoundsException.class, () -> x.crash(nodes) ? 1 : 0); break;
+            default: CHECKS.dueThrow("calm", IllegalArgumentException.class, () -> x.calm(-1));
+        }
     }
 
     private static void finish(SharedShelf x, Model m, String where) {
@@ -84,18 +102,19 @@ public final class RandomRunsTest {
         return i;
     }
 
-    /** 31 NODES whose late MESSAGES are left on their way, until there is no room any more. */
-    private static void crowd(int seed) {
+    /** NODES whose late MESSAGES are left on their way, until there is no room any more. */
+    private static void crowd(int seed, int nodes, int calls) {
         Random random = new Random(seed);
-        SharedShelf x = new SharedShelf(31);
-        Model m = new Model(31);
+        SharedShelf x = new SharedShelf(nodes);
+        Model m = new Model(nodes);
         String where = "crowd " + seed + ": ";
-        for (int c = 0; c < 9000; c++) {
-            int node = random.nextInt(31);
+        for (int c = 0; c < calls; c++) {
+            int node = random.nextInt(nodes);
             int kind = random.nextBoolean() ? random.nextInt(4) : 10 + random.nextInt(6);
-            if (c % 40 < 31) {
-                int got = kind < 10 ? x.update(c % 40, kind, c, 1) : x.query(c % 40, kind, c);
-                CHECKS.due(where + "begins", got, m.begin(c % 40, kind, c, kind < 10 ? 1 : 0));
+            int asker = c % (nodes + 9);
+            if (asker < nodes) {
+                int got = kind < 10 ? x.update(asker, kind, c, 1) : x.query(asker, kind, c);
+                CHECKS.due(where + "begins", got, m.begin(asker, kind, c, kind < 10 ? 1 : 0));
             }
             int i = Steps.findOfRound(x, node);
             if (i < 0) {
