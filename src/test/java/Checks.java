@@ -1,15 +1,18 @@
+import java.util.HashSet;
+import java.util.Set;
+
 /** Counts and prints the answers that are not as due. */
 final class Checks {
     private String sentence = "";
     private boolean isAsked = true;
-    private int sentences;
+    private final Set<String> sentences = new HashSet<>();
     private int wrong;
     private int asked;
 
     /** The answers that are asked for from here on are those that this sentence of the document makes due. */
     void sentence(String words) {
         dueAsked();
-        sentences++;
+        sentences.add(words);
         sentence = "\"" + words + "\": ";
         isAsked = false;
     }
@@ -53,7 +56,7 @@ final class Checks {
 
     void end() {
         dueAsked();
-        System.out.println((sentences > 0 ? sentences + " sentences, " : "")
+        System.out.println((sentences.isEmpty() ? "" : sentences.size() + " sentences, ")
                 + asked + " answers asked for, " + wrong + " not as due");
         if (wrong != 0) {
             System.exit(1);
